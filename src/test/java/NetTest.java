@@ -386,6 +386,23 @@ public final class NetTest {
         }
         dueChannel("all is acknowledged", net, 0, 0, 0, 0, 0, 2, 0, 0, 0, 5, 5);
         requestsFromTheirSerialOn();
+        nineteenBehind();
+    }
+
+    /** As far behind as one can be, 20 being kept. */
+    private static void nineteenBehind() {
+        TextNet net = pairWith(20);
+        for (int k = 0; k < 20; k++) {
+            net.send(0, 0);
+        }
+        for (int k = 0; k < 19; k++) {
+            net.disturb(0, 0, 0);
+        }
+        check.due("20 is early", net.carry(0, 0), 2);
+        check.due("the request for 1", net.carry(0, 1), 5);
+        for (int k = 0; k < 20; k++) {
+            check.due("taken", net.carry(0, 0), 1);
+        }
     }
 
     private static void requestsFromTheirSerialOn() {
@@ -547,6 +564,7 @@ public final class NetTest {
         check.due("an address that is still held", net.arrived(1, 0), false);
         net.serve(1, true);
         check.due("all of a is taken", net.count(0, 2), 0);
+        check.due("what went by line 0 is not held too", net.channel(0, 0, 3), 0);
         check.due("all of b is taken", net.count(1, 2), 0);
         check.due("from b of line 1", net.channel(1, 1, 3), 2);
         check.due("from a of line 1", net.channel(1, 0, 3), 1);

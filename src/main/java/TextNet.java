@@ -397,7 +397,6 @@ public final class TextNet {
         /** If the first bytes are not good, fault is the answer of file. */
         boolean isGood(int first) {
             length = first;
-            place = 0;
             addressCount = 0;
             return readPriority() && readAddresses() && readOrigin() && readLines();
         }

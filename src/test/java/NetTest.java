@@ -1,7 +1,6 @@
-/** Promises 1 to 3 and 6 to 15, one method for each, with the limits that the document tells. */
+/** Promises 1 to 3 and 6 to 15, one method for each, in runs as a user would make them. */
 public final class NetTest {
     private static final Check check = new Check();
-    private static final String TO_B = Texts.simple("GG", "EBAAAAAA");
     private static final int MOST = Integer.MAX_VALUE;
     private static final int LEAST = Integer.MIN_VALUE;
 
@@ -14,10 +13,8 @@ public final class NetTest {
         partsOfACopy();
         send();
         sendByPriority();
-        sendOnAFullWire();
         carry();
         earlyAndRequests();
-        requestOnAFullWire();
         again();
         disturb();
         serve();
@@ -30,38 +27,17 @@ public final class NetTest {
         arrived();
         channel();
         count();
-        serialsGoRound();
         check.end();
     }
 
-    /** Line 0 between 0 and 1; EA is at the desk of 0, EB at the desk of 1. */
-    private static TextNet pair() {
-        TextNet net = new TextNet();
-        net.line(0, 0, 1);
-        Texts.route(net, 0, "EA", -1, -1);
-        Texts.route(net, 0, "EB", 0, -1);
-        Texts.route(net, 1, "EB", -1, -1);
-        Texts.route(net, 1, "EA", 0, -1);
-        return net;
-    }
-
-    private static TextNet pairWith(int messages) {
-        TextNet net = pair();
-        Texts.write(net, TO_B);
-        for (int k = 0; k < messages; k++) {
-            net.file(0, TO_B.length());
-        }
-        return net;
-    }
-
-    private static void dueChannel(String when, TextNet net, int l, int c, int... wants) {
+    private static void dueChannel(String when, Net net, int l, int c, int... wants) {
         for (int what = 0; what < wants.length; what++) {
             check.due(when + ": channel(" + l + ", " + c + ", " + what + ")", net.channel(l, c, what), wants[what]);
         }
     }
 
     private static void newObject() {
-        TextNet net = new TextNet();
+        Net net = new Net();
         for (int l = 0; l < 8; l++) {
             int number = l;
             check.refusesArgument("a new net: channel of line " + l, () -> net.channel(number, 0, 0));
@@ -75,14 +51,14 @@ public final class NetTest {
         check.due("a new net: minute", net.count(-1, 3), 0);
         check.due("a new net: filed", net.count(-1, 4), 0);
         check.due("a new net: time(1000)", net.time(1000), 0);
-        check.due("a new net: the text has a fault", new TextNet().file(0, 1600), -2);
-        Texts.file(net, 0, TO_B);
+        check.due("a new net: a text of nothing", new Net().file(0, 0), -2);
+        Texts.file(net, 0, Scenes.TO_B);
         check.due("no entries: unknown", net.count(0, 0), 1);
-        check.due("another net has its own state", new TextNet().count(-1, 3), 0);
+        check.due("another net has its own state", new Net().count(-1, 3), 0);
     }
 
     private static void line() {
-        TextNet net = new TextNet();
+        Net net = new Net();
         check.refusesArgument("line(-1, 0, 1)", () -> net.line(-1, 0, 1));
         check.refusesArgument("line(8, 0, 1)", () -> net.line(8, 0, 1));
         check.refusesArgument("line(0, -1, 1)", () -> net.line(0, -1, 1));
@@ -111,7 +87,7 @@ public final class NetTest {
     }
 
     private static void directions() {
-        TextNet net = new TextNet();
+        Net net = new Net();
         net.line(3, 4, 2);
         Texts.route(net, 2, "EA", 3, -1);
         Texts.route(net, 4, "EA", -1, -1);
@@ -132,7 +108,7 @@ public final class NetTest {
     }
 
     private static void route() {
-        TextNet net = new TextNet();
+        Net net = new Net();
         net.line(0, 0, 1);
         net.line(1, 0, 2);
         Texts.route(net, 0, "A", -1, -1);
@@ -149,7 +125,7 @@ public final class NetTest {
     }
 
     private static void routeRefuses() {
-        TextNet net = new TextNet();
+        Net net = new Net();
         net.line(0, 0, 1);
         net.line(1, 1, 2);
         int a = 'A';
@@ -194,7 +170,7 @@ public final class NetTest {
     }
 
     private static void longestPrefix() {
-        TextNet net = new TextNet();
+        Net net = new Net();
         for (int l = 0; l < 3; l++) {
             net.line(l, 0, l + 1);
         }
@@ -218,7 +194,7 @@ public final class NetTest {
     }
 
     private static void partsOfACopy() {
-        TextNet net = new TextNet();
+        Net net = new Net();
         net.line(0, 0, 1);
         net.line(1, 0, 1);
         Texts.route(net, 0, "A", 0, 1);
@@ -240,7 +216,7 @@ public final class NetTest {
     }
 
     private static void send() {
-        TextNet net = pairWith(21);
+        Net net = Scenes.pairWith(21);
         check.refusesArgument("send(-1, 0)", () -> net.send(-1, 0));
         check.refusesArgument("send(8, 0)", () -> net.send(8, 0));
         check.refusesArgument("send(1, 0)", () -> net.send(1, 0));
@@ -264,7 +240,7 @@ public final class NetTest {
     }
 
     private static void sendByPriority() {
-        TextNet net = pair();
+        Net net = Scenes.pair();
         String[] priorities = {"KK", "GG", "SS", "FF", "DD", "GG", "SS", "KK"};
         for (int k = 0; k < priorities.length; k++) {
             Texts.file(net, 0, Texts.simple(priorities[k], "EBAAAAA" + (char) ('A' + k)));
@@ -276,7 +252,7 @@ public final class NetTest {
             net.carry(0, 0);
             check.due("the message sent as " + (k + 1), net.read(1, k, 10), order.charAt(k));
         }
-        TextNet later = pairWith(2);
+        Net later = Scenes.pairWith(2);
         later.send(0, 0);
         Texts.file(later, 0, Texts.simple("SS", "EBZAAAAA"));
         later.send(0, 0);
@@ -285,29 +261,8 @@ public final class NetTest {
         check.due("a higher one passes what is in the queue", later.read(1, 1, 5), 'Z');
     }
 
-    private static void sendOnAFullWire() {
-        TextNet net = pairWith(3);
-        net.send(0, 0);
-        for (int k = 0; k < 199; k++) {
-            net.disturb(0, 0, 1);
-        }
-        check.due("send on a full wire", net.send(0, 0), 2);
-        dueChannel("a full wire", net, 0, 0, 0, 0, 0, 1, 0, 2, 200, 3, 1);
-        check.due("one is put again and lost", net.time(5), 1);
-        check.due("a lost one counts as put", net.time(4), 0);
-        check.due("send on a full wire counts as put", net.send(0, 0), 3);
-        check.due("5 minutes behind the put again", net.time(1), 0);
-        check.due("5 minutes behind the send", net.time(4), 1);
-        check.due("the wire", net.channel(0, 0, 6), 200);
-        for (int k = 0; k < 200; k++) {
-            check.due("carry " + k, net.carry(0, 0), k == 0 ? 1 : 3);
-        }
-        check.due("the lost ones never come", net.carry(0, 0), 0);
-        check.due("acknowledgements", net.channel(0, 1, 6), 200);
-    }
-
     private static void carry() {
-        TextNet net = pairWith(3);
+        Net net = Scenes.pairWith(3);
         check.refusesArgument("carry(-1, 0)", () -> net.carry(-1, 0));
         check.refusesArgument("carry(8, 0)", () -> net.carry(8, 0));
         check.refusesArgument("carry(7, 0)", () -> net.carry(7, 0));
@@ -337,7 +292,7 @@ public final class NetTest {
 
     /** Acknowledgements stand on the wire of the other channel, between its own messages. */
     private static void twoWays() {
-        TextNet net = pairWith(1);
+        Net net = Scenes.pairWith(1);
         Texts.file(net, 1, Texts.simple("SS", "EAAAAAAA"));
         check.due("serials of channel 0", net.send(0, 0), 1);
         check.due("serials of channel 1", net.send(0, 1), 1);
@@ -351,7 +306,7 @@ public final class NetTest {
     }
 
     private static void earlyAndRequests() {
-        TextNet net = pairWith(6);
+        Net net = Scenes.pairWith(6);
         for (int k = 0; k < 4; k++) {
             net.send(0, 0);
         }
@@ -386,27 +341,10 @@ public final class NetTest {
         }
         dueChannel("all is acknowledged", net, 0, 0, 0, 0, 0, 2, 0, 0, 0, 5, 5);
         requestsFromTheirSerialOn();
-        nineteenBehind();
-    }
-
-    /** As far behind as one can be, 20 being kept. */
-    private static void nineteenBehind() {
-        TextNet net = pairWith(20);
-        for (int k = 0; k < 20; k++) {
-            net.send(0, 0);
-        }
-        for (int k = 0; k < 19; k++) {
-            net.disturb(0, 0, 0);
-        }
-        check.due("20 is early", net.carry(0, 0), 2);
-        check.due("the request for 1", net.carry(0, 1), 5);
-        for (int k = 0; k < 20; k++) {
-            check.due("taken", net.carry(0, 0), 1);
-        }
     }
 
     private static void requestsFromTheirSerialOn() {
-        TextNet net = pairWith(4);
+        Net net = Scenes.pairWith(4);
         for (int k = 0; k < 4; k++) {
             net.send(0, 0);
         }
@@ -423,42 +361,8 @@ public final class NetTest {
         check.due("4", net.carry(0, 0), 1);
     }
 
-    private static void requestOnAFullWire() {
-        TextNet net = pairWith(6);
-        net.send(0, 0);
-        net.carry(0, 0);
-        for (int k = 0; k < 199; k++) {
-            net.disturb(0, 1, 1);
-        }
-        net.send(0, 0);
-        net.send(0, 0);
-        net.send(0, 0);
-        net.disturb(0, 0, 0);
-        check.due("3 is early", net.carry(0, 0), 2);
-        check.due("its request is lost", net.channel(0, 1, 6), 200);
-        net.carry(0, 1);
-        net.time(2);
-        check.due("4 is early", net.carry(0, 0), 2);
-        check.due("a lost request counts as put", net.channel(0, 1, 6), 199);
-        net.time(1);
-        net.send(0, 0);
-        check.due("5 is early", net.carry(0, 0), 2);
-        check.due("3 minutes later", net.channel(0, 1, 6), 200);
-        for (int k = 0; k < 199; k++) {
-            net.disturb(0, 1, 0);
-        }
-        net.send(0, 0);
-        for (int k = 0; k < 197; k++) {
-            net.disturb(0, 0, 1);
-        }
-        check.due("the wire ahead of the request", net.channel(0, 0, 6), 198);
-        check.due("the request", net.carry(0, 1), 5);
-        check.due("frames up to 200", net.channel(0, 0, 6), 200);
-        check.due("frames of a request, lost or not, are put", net.time(4), 0);
-    }
-
     private static void again() {
-        TextNet net = pairWith(3);
+        Net net = Scenes.pairWith(3);
         for (int k = 0; k < 2; k++) {
             net.send(0, 0);
             net.disturb(0, 0, 1);
@@ -478,7 +382,7 @@ public final class NetTest {
     }
 
     private static void disturb() {
-        TextNet net = pairWith(2);
+        Net net = Scenes.pairWith(2);
         check.refusesArgument("disturb(-1, 0, 0)", () -> net.disturb(-1, 0, 0));
         check.refusesArgument("disturb(8, 0, 0)", () -> net.disturb(8, 0, 0));
         check.refusesArgument("disturb(2, 0, 0)", () -> net.disturb(2, 0, 0));
@@ -512,7 +416,7 @@ public final class NetTest {
     }
 
     private static void serve() {
-        TextNet net = pairWith(3);
+        Net net = Scenes.pairWith(3);
         check.refusesArgument("serve(-1, ..)", () -> net.serve(-1, false));
         check.refusesArgument("serve(8, ..)", () -> net.serve(8, true));
         check.refusesArgument("serve(1, ..)", () -> net.serve(1, true));
@@ -534,7 +438,7 @@ public final class NetTest {
     }
 
     private static void heldAgain() {
-        TextNet net = new TextNet();
+        Net net = new Net();
         net.line(0, 0, 1);
         net.line(1, 1, 0);
         Texts.route(net, 0, "A", 0, -1);
@@ -574,7 +478,7 @@ public final class NetTest {
 
     /** Held again means behind what else is held, but all that are taken keep their order. */
     private static void heldStandBehind() {
-        TextNet net = new TextNet();
+        Net net = new Net();
         net.line(0, 0, 1);
         net.line(1, 0, 2);
         Texts.route(net, 0, "A", 0, -1);
@@ -603,7 +507,7 @@ public final class NetTest {
     }
 
     private static void heldNotBackByItsLine() {
-        TextNet net = new TextNet();
+        Net net = new Net();
         net.line(0, 0, 1);
         net.line(1, 1, 2);
         Texts.route(net, 0, "A", 0, -1);
@@ -638,7 +542,7 @@ public final class NetTest {
     }
 
     private static void time() {
-        TextNet net = pairWith(2);
+        Net net = Scenes.pairWith(2);
         check.refusesArgument("time(-1)", () -> net.time(-1));
         check.refusesArgument("time(1001)", () -> net.time(1001));
         check.refusesArgument("time(most)", () -> net.time(MOST));
@@ -670,7 +574,7 @@ public final class NetTest {
     }
 
     private static void timeOfManyChannels() {
-        TextNet net = new TextNet();
+        Net net = new Net();
         for (int l = 0; l < 4; l++) {
             net.line(l, 0, 1);
             Texts.route(net, 0, "" + (char) ('A' + l), l, -1);
@@ -690,7 +594,7 @@ public final class NetTest {
     }
 
     private static void acknowledgementsAreNoMessages() {
-        TextNet net = pairWith(2);
+        Net net = Scenes.pairWith(2);
         Texts.file(net, 1, Texts.simple("GG", "EAAAAAAA"));
         net.send(0, 1);
         net.send(0, 0);
@@ -701,7 +605,7 @@ public final class NetTest {
     }
 
     private static void timeOfACutLine() {
-        TextNet net = pairWith(1);
+        Net net = Scenes.pairWith(1);
         net.send(0, 0);
         net.serve(0, false);
         check.due("a cut line puts nothing", net.time(9), 0);
@@ -712,7 +616,7 @@ public final class NetTest {
     }
 
     private static void delivered() {
-        TextNet net = pair();
+        Net net = Scenes.pair();
         check.refusesArgument("delivered(-1)", () -> net.delivered(-1));
         check.refusesArgument("delivered(6)", () -> net.delivered(6));
         Texts.file(net, 0, Texts.simple("SS", "EAAAAAAA", "EABAAAAA", "EBAAAAAA", "EACAAAAA"));
@@ -727,11 +631,30 @@ public final class NetTest {
             check.due("nothing elsewhere", net.delivered(s), 0);
         }
         twiceAtOneDesk();
+        atAnotherDeskBetween();
+    }
+
+    private static void atAnotherDeskBetween() {
+        Net net = new Net();
+        for (int l = 0; l < 3; l++) {
+            net.line(l, 0, 1 + l / 2);
+            Texts.route(net, 0, "" + (char) ('A' + l), l, -1);
+            Texts.route(net, 1, "" + (char) ('A' + l), -1, -1);
+            Texts.route(net, 2, "" + (char) ('A' + l), -1, -1);
+        }
+        Texts.file(net, 0, Texts.simple("SS", "AAAAAAAA", "BAAAAAAA", "CAAAAAAA"));
+        for (int l : new int[] {0, 2, 1}) {
+            net.send(l, 0);
+            net.carry(l, 0);
+        }
+        check.due("once at 1", net.delivered(1), 1);
+        check.due("once at 2", net.delivered(2), 1);
+        check.due("all have arrived", net.arrived(1, 0) && net.arrived(1, 1) && net.arrived(1, 2), true);
     }
 
     /** The addresses of one message may come to one desk by two ways. */
     private static void twiceAtOneDesk() {
-        TextNet net = new TextNet();
+        Net net = new Net();
         net.line(0, 0, 1);
         net.line(1, 0, 1);
         Texts.route(net, 0, "A", 0, -1);
@@ -755,7 +678,7 @@ public final class NetTest {
     }
 
     private static void read() {
-        TextNet net = pair();
+        Net net = Scenes.pair();
         String[] texts = {Texts.simple("SS", "EAAAAAAA"),
             Texts.simple("KK", "EABAAAAA", "EACAAAAA").replace("NNNN", "A - ? : ( ) . , ' / + = 9\nNNNN")};
         Texts.file(net, 0, texts[0]);
@@ -775,7 +698,7 @@ public final class NetTest {
         check.due("nothing at another desk", net.read(1, 0, 0), -1);
         check.refusesArgument("read(-1, 0, 0)", () -> net.read(-1, 0, 0));
         check.refusesArgument("read(6, 0, 0)", () -> net.read(6, 0, 0));
-        TextNet full = pair();
+        Net full = Scenes.pair();
         Texts.write(full, texts[0]);
         for (int k = 0; k < 200; k++) {
             full.file(0, texts[0].length());
@@ -786,7 +709,7 @@ public final class NetTest {
     }
 
     private static void arrived() {
-        TextNet net = pair();
+        Net net = Scenes.pair();
         check.refusesArgument("arrived(1, 0) when nothing is filed", () -> net.arrived(1, 0));
         Texts.file(net, 0, Texts.simple("SS", "EBAAAAAA", "EAAAAAAA", "ECAAAAAA"));
         check.refusesArgument("arrived(0, 0)", () -> net.arrived(0, 0));
@@ -806,7 +729,7 @@ public final class NetTest {
     }
 
     private static void channel() {
-        TextNet net = pairWith(2);
+        Net net = Scenes.pairWith(2);
         check.refusesArgument("channel(-1, 0, 0)", () -> net.channel(-1, 0, 0));
         check.refusesArgument("channel(8, 0, 0)", () -> net.channel(8, 0, 0));
         check.refusesArgument("channel(1, 0, 0)", () -> net.channel(1, 0, 0));
@@ -830,7 +753,7 @@ public final class NetTest {
     }
 
     private static void count() {
-        TextNet net = pair();
+        Net net = Scenes.pair();
         int[][] wrong = {{-1, 0}, {-1, 1}, {-1, 2}, {-1, 5}, {-1, -1}, {0, 3}, {0, 4}, {5, 3}, {0, -1}, {0, 5},
             {6, 0}, {6, 3}, {-2, 3}, {-2, 0}, {LEAST, 4}, {MOST, 0}, {0, MOST}};
         for (int[] pair : wrong) {
@@ -851,7 +774,7 @@ public final class NetTest {
     }
 
     private static void unknownBehindALine() {
-        TextNet net = new TextNet();
+        Net net = new Net();
         net.line(0, 0, 1);
         Texts.route(net, 0, "E", 0, -1);
         Texts.route(net, 1, "EA", -1, -1);
@@ -861,30 +784,5 @@ public final class NetTest {
         check.due("unknown there", net.count(1, 0), 1);
         check.due("not here", net.count(0, 0), 0);
         check.due("the other one is delivered", net.arrived(1, 1), true);
-    }
-
-    /**
-     * 512 calls can't use up 999 serials, so no promise needs this; but the terms tell it, and the
-     * object should not break when a caller goes on. One copy goes round three switches.
-     */
-    private static void serialsGoRound() {
-        TextNet net = new TextNet();
-        for (int l = 0; l < 3; l++) {
-            net.line(l, l, (l + 1) % 3);
-            Texts.route(net, l, "A", l, -1);
-        }
-        Texts.file(net, 0, Texts.simple("SS", "AAAAAAAA"));
-        for (int round = 0; round < 2100; round++) {
-            for (int l = 0; l < 3; l++) {
-                check.due("serial of round " + round, net.send(l, 0), round % 999 + 1);
-                net.disturb(l, 0, 1);
-                check.due("taken", net.carry(l, 0), 1);
-                check.due("again", net.carry(l, 0), 3);
-                check.due("expected", net.channel(l, 0, 8), (round + 1) % 999 + 1);
-                net.disturb(l, 1, 0);
-                check.due("acknowledged", net.carry(l, 1), 4);
-                check.due("kept", net.channel(l, 0, 5), 0);
-            }
-        }
     }
 }

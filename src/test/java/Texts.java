@@ -17,26 +17,28 @@ final class Texts {
         return word;
     }
 
-    static void write(TextNet net, String text) {
+    static void write(Net net, String text) {
         for (int i = 0; i < text.length() && i < 1600; i += 4) {
             net.put(i, word(text, i));
         }
     }
 
-    static int file(TextNet net, int s, String text) {
+    static int file(Net net, int s, String text) {
         write(net, text);
         return net.file(s, text.length());
     }
 
-    static void route(TextNet net, int s, String prefix, int main, int alternate) {
+    static void route(Net net, int s, String prefix, int main, int alternate) {
         net.route(s, word(prefix, 0), word(prefix, 4), prefix.length(), main, alternate);
     }
 
     /** The text of the k-th message on a desk, as read tells it byte by byte. */
-    static String onDesk(TextNet net, int s, int k) {
+    static String onDesk(Net net, int s, int k) {
         StringBuilder text = new StringBuilder();
-        for (int i = 0; i <= 1600 && net.read(s, k, i) >= 0; i++) {
-            text.append((char) net.read(s, k, i));
+        int next = net.read(s, k, 0);
+        while (next >= 0) {
+            text.append((char) next);
+            next = net.read(s, k, text.length());
         }
         return text.toString();
     }
